@@ -566,7 +566,7 @@ public final class TwinVaults {
         s.phase = OFFERED;
         s.waited = 0;
         int line = s.vault.lineOf(s.target);
-        writes.collect(s.plan, line, writes.length[s.vault.lineOf(s.base)]);
+        writes.collect(s.plan, line, s.vault.lengthOfId(s.base));
         Message m = new Message(s, OFFER, s.base, s.target);
         m.c = s.plan.count;
         m.d = writes.length[line];
@@ -615,6 +615,7 @@ public final class TwinVaults {
     }
 
     private void sendOn(Store s) {
+        writes.collect(s.plan, s.vault.lineOf(s.target), s.vault.lengthOfId(s.base));
         int end = Math.min(s.chunks + window, (s.plan.count + CHUNK - 1) / CHUNK);
         for (int chunk = s.next; chunk < end; chunk++) {
             sendData(s, chunk);
@@ -739,7 +740,7 @@ public final class TwinVaults {
         if (s.role != FENCED || !s.returning || (m.b != 0 && k < 0) || !s.site.act()) {
             return;
         }
-        writes.collect(s.gone, s.vault.now, writes.length[s.vault.lineOf(m.b)]);
+        writes.collect(s.gone, s.vault.now, s.vault.lengthOfId(m.b));
         s.vault.returnTo(k);
         s.role = COPY;
         s.forgetOther();
@@ -1122,6 +1123,10 @@ public final class TwinVaults {
         int lineOf(int id) {
             int k = find(id);
             return k < 0 ? 0 : lines[k];
+        }
+
+        int lengthOfId(int id) {
+            return writes.length[lineOf(id)];
         }
 
         int numberAt(int spot) {
