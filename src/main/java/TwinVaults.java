@@ -1359,7 +1359,7 @@ public final class TwinVaults {
 
         void thin(int keep) {
             int k = 0;
-            while (vault.count > keep && k < vault.count) {
+            for (int unseen = vault.count; unseen > 0 && vault.count > keep; unseen--) {
                 if (isPinned(vault.ids[k])) {
                     k++;
                 } else {
