@@ -455,6 +455,7 @@ public final class TwinVaults {
         return free;
     }
 
+    /** By 4 each site's gifts and forces leave a rest of their own, so that no two of them ever make the same epoch. */
     private static int nextEpoch(int epoch, int rest) {
         return epoch + 1 + Math.floorMod(rest - epoch - 1, 4);
     }
