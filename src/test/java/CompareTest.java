@@ -1,4 +1,3 @@
-import java.lang.reflect.Field;
 import java.util.ArrayList;
 import java.util.Arrays;
 import java.util.List;
@@ -264,14 +263,14 @@ public final class CompareTest {
         if (oneIn(4)) {
             s.epoch += 4;
             calls.add("(store " + h + "'s epoch is " + s.epoch + ")");
-            set(storeIn(h), "epoch", s.epoch);
+            Inside.set(Inside.store(x, h), "epoch", s.epoch);
         } else if (oneIn(4)) {
             renameLatest((h + 4) % 8);
         } else if (s.target != 0) {
             PlainTwin.Snapshot p = s.snapshots.get(chance.nextInt(s.snapshots.size()));
             s.base = p.id < s.target ? p.id : 0;
             calls.add("(store " + h + "'s base is " + s.base + ")");
-            set(storeIn(h), "base", s.base);
+            Inside.set(Inside.store(x, h), "base", s.base);
         }
     }
 
@@ -289,33 +288,7 @@ public final class CompareTest {
         }
         all.get(k).id = id;
         calls.add("(store " + h + "'s last snapshot is " + id + ")");
-        ((int[]) get(get(storeIn(h), "vault"), "ids"))[k] = id;
-    }
-
-    private Object storeIn(int h) {
-        return ((Object[]) get(x, "stores"))[h];
-    }
-
-    private static Object get(Object of, String name) {
-        try {
-            return open(of, name).get(of);
-        } catch (ReflectiveOperationException e) {
-            throw new AssertionError(e);
-        }
-    }
-
-    private static void set(Object of, String name, int value) {
-        try {
-            open(of, name).setInt(of, value);
-        } catch (ReflectiveOperationException e) {
-            throw new AssertionError(e);
-        }
-    }
-
-    private static Field open(Object of, String name) throws ReflectiveOperationException {
-        Field field = of.getClass().getDeclaredField(name);
-        field.setAccessible(true);
-        return field;
+        ((int[]) Inside.get(Inside.get(Inside.store(x, h), "vault"), "ids"))[k] = id;
     }
 
     private void lookAtAll() {

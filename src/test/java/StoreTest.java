@@ -19,6 +19,7 @@ public final class StoreTest {
         checkpoint();
         snapshot();
         snapshotThatIsCutShort();
+        snapshotAtTheLimit();
         due.end("StoreTest");
     }
 
@@ -402,5 +403,31 @@ public final class StoreTest {
         due.is("nothing is lost", x.up(0), 0);
         due.is("again", x.snapshot(0), 4097);
         due.is("by one act", x.total(11), 5);
+    }
+
+    /** No object is used for so many calls: all but the last two are set as taken. */
+    private static void snapshotAtTheLimit() {
+        TwinVaults x = made(64, 1, 40);
+        x.write(0, 0, 3, 1);
+        x.snapshot(0);
+        Inside.set(Inside.store(x, 0), "taken", 4093);
+        x.write(0, 0, 3, 2);
+        due.is("the last but one", x.snapshot(0), 4096 + 4094);
+        x.write(0, 0, 3, 3);
+        due.is("the last one", x.snapshot(0), 4096 + 4095);
+        x.write(0, 0, 3, 4);
+        int acts = x.total(11);
+        due.is("one more", x.snapshot(0), -5);
+        due.is("leave", x.leave(0), -5);
+        due.is("no act", x.total(11), acts);
+        due.is("of a copy", x.snapshot(4), -4);
+        x.period(1);
+        x.tick();
+        due.is("a tick takes none", x.state(0, 24), 4095);
+        due.is("but it offers", x.state(0, 8), 8191);
+        x.crash(0);
+        due.is("down", x.snapshot(0), -3);
+        x.up(0);
+        due.is("leave with nothing new", x.leave(0), 8191);
     }
 }
