@@ -1,10 +1,11 @@
-import java.util.Arrays;
-
 /**
  * Two sites with stores of volumes, each the far copy of the other in its turn.
  *
  * <p>A LINE is held as the number of its last write (0: the empty line): every write knows the line that it
  * stands on, so stores that have a line in common share it, and a line that was once made never changes.
+ *
+ * <p>All rows that have a size are made with the object, for the most that the document lets be there: what the
+ * calls make is a few messages each, whatever they are called with.
  */
 public final class TwinVaults {
     public static final int NONE = -1, BAD = -2, DOWN = -3, ROLE = -4, LIMIT = -5, FULL = -6;
@@ -39,9 +40,12 @@ public final class TwinVaults {
         sites = new Site[2];
         sites[0] = new Site(0);
         sites[1] = new Site(1);
-        stores = new Store[STORES];
         writes = new Writes();
         link = new Link();
+        stores = new Store[STORES];
+        for (int h = 0; h < STORES; h++) {
+            stores[h] = new Store(h, sites[h / GROUPS], new Vault(writes), this.pool);
+        }
     }
 
     // ---- the calls that change something
@@ -54,8 +58,8 @@ public final class TwinVaults {
             return NONE;
         }
         int g = groups;
-        stores[g] = new Store(g, sites[0], PRIMARY, new Vault(writes, volumes, places));
-        stores[g + GROUPS] = new Store(g + GROUPS, sites[1], COPY, new Vault(writes, volumes, places));
+        stores[g].vault.open(volumes, places);
+        stores[g + GROUPS].vault.open(volumes, places);
         groups++;
         return g;
     }
@@ -426,8 +430,9 @@ public final class TwinVaults {
 
     // ---- what the calls have in common
 
+    /** null: there is no such store, or not yet its group. */
     private Store storeOf(int h) {
-        return h < 0 || h >= STORES ? null : stores[h];
+        return h < 0 || h >= STORES || h % GROUPS >= groups ? null : stores[h];
     }
 
     private static int spotOf(int volume, int place) {
@@ -859,18 +864,18 @@ public final class TwinVaults {
     /** All writes that were ever made; number 0 is none, the end of the empty line. */
     private static final class Writes {
         int made;
-        int[] spot;
-        int[] number;
+        final int[] spot;
+        final int[] number;
         // The line that a write was put behind.
-        int[] before;
+        final int[] before;
         // The write that held its place in that line.
-        int[] earlier;
+        final int[] earlier;
         // The length of the line that ends with it.
-        int[] length;
+        final int[] length;
         private final Marks seen;
 
         Writes() {
-            int room = 1024;
+            int room = MOST_WRITES + 1;
             spot = new int[room];
             number = new int[room];
             before = new int[room];
@@ -879,10 +884,10 @@ public final class TwinVaults {
             seen = new Marks(MOST_VOLUMES * MOST_PLACES);
         }
 
-        /** The line that is one write longer; the caller has looked that there may be one more. */
+        /** The line that is one write longer; the same one if there may be no more, which callers look at first. */
         int extend(int line, int atSpot, int aNumber, int earlierThere) {
-            if (made + 1 >= length.length) {
-                grow(2 * length.length);
+            if (made >= MOST_WRITES) {
+                return line;
             }
             made++;
             spot[made] = atSpot;
@@ -891,15 +896,6 @@ public final class TwinVaults {
             earlier[made] = earlierThere;
             length[made] = length[line] + 1;
             return made;
-        }
-
-        private void grow(int wanted) {
-            int room = Math.min(wanted, MOST_WRITES + 2);
-            spot = Arrays.copyOf(spot, room);
-            number = Arrays.copyOf(number, room);
-            before = Arrays.copyOf(before, room);
-            earlier = Arrays.copyOf(earlier, room);
-            length = Arrays.copyOf(length, room);
         }
 
         /** What a write tells: 0 its volume, 1 its place, 2 its number. */
@@ -957,7 +953,7 @@ public final class TwinVaults {
             if (row.line == line && row.from == from) {
                 return;
             }
-            row.begin(line, from, placesBehind(line, from));
+            row.begin(line, from);
             seen.begin();
             int w = line;
             for (int left = length[line] - from; left > 0; left--) {
@@ -997,20 +993,17 @@ public final class TwinVaults {
     private static final class Row {
         int line;
         int from;
-        int[] list;
+        final int[] list;
         int count;
 
-        Row() {
-            list = new int[16];
+        Row(int room) {
+            list = new int[room];
         }
 
-        void begin(int aLine, int aFrom, int room) {
+        void begin(int aLine, int aFrom) {
             line = aLine;
             from = aFrom;
             count = 0;
-            if (room > list.length) {
-                list = new int[Math.max(room, 2 * list.length)];
-            }
         }
 
         void add(int w) {
@@ -1053,8 +1046,8 @@ public final class TwinVaults {
     /** The lines of a store: NOW, SAFE, KEPT and the SNAPSHOTS, and the blocks that they need. */
     private static final class Vault {
         final Writes writes;
-        final int volumes;
-        final int places;
+        int volumes;
+        int places;
         // The last write of each spot in NOW.
         final int[] newest;
         int now;
@@ -1066,13 +1059,17 @@ public final class TwinVaults {
         // Each stretch between SNAPSHOTS, KEPT and NOW needs as many as places are WRITTEN in it.
         int blocks;
 
-        Vault(Writes writes, int volumes, int places) {
+        Vault(Writes writes) {
             this.writes = writes;
-            this.volumes = volumes;
-            this.places = places;
-            newest = new int[volumes * MOST_PLACES];
+            newest = new int[MOST_VOLUMES * MOST_PLACES];
             ids = new int[SHELF_ROOM];
             lines = new int[SHELF_ROOM];
+        }
+
+        /** Its group is there: till then it has no place. */
+        void open(int someVolumes, int somePlaces) {
+            volumes = someVolumes;
+            places = somePlaces;
         }
 
         boolean hasPlace(int volume, int place) {
@@ -1294,7 +1291,7 @@ public final class TwinVaults {
         final Site site;
         final Vault vault;
         final Staging staging;
-        // What is sent, and what the latest way back lost.
+        // What is sent, and what the latest way back lost: each of these places needs a block, so the pool holds them.
         final Row plan;
         final Row gone;
         int role;
@@ -1312,14 +1309,14 @@ public final class TwinVaults {
         int waited;
         boolean returning;
 
-        Store(int number, Site site, int role, Vault vault) {
+        Store(int number, Site site, Vault vault, int pool) {
             this.number = number;
             this.site = site;
-            this.role = role;
             this.vault = vault;
             staging = new Staging();
-            plan = new Row();
-            gone = new Row();
+            plan = new Row(pool);
+            gone = new Row(pool);
+            role = site.number == 0 ? PRIMARY : COPY;
             epoch = 1;
         }
 
