@@ -64,8 +64,9 @@ public final class CompareTest {
                 System.out.println("run " + seed + ":\n  " + String.join("\n  ", run.calls));
             }
         }
-        for (String what : MEETINGS) {
-            due.is("was met: " + what, met.containsKey(what), true);
+        // Other runs than the project's own need not meet what is rare.
+        for (int i = 0; i < MEETINGS.length && args.length == 0; i++) {
+            due.is("was met: " + MEETINGS[i], met.containsKey(MEETINGS[i]), true);
         }
         System.out.println(met);
         due.end("CompareTest");
