@@ -25,6 +25,10 @@ final class Due {
         return answer == ILLEGAL_STATE ? "throws.IllegalStateException" : Long.toString(answer);
     }
 
+    long asked() {
+        return asked;
+    }
+
     boolean allRight() {
         return wrong == 0;
     }

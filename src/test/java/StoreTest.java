@@ -1,3 +1,7 @@
+import java.util.Random;
+import java.util.Set;
+import java.util.TreeSet;
+
 /** Promises 1 to 7: a new object, group, write, fill, flush, checkpoint, snapshot. */
 public final class StoreTest {
     private static final Due due = new Due();
@@ -17,6 +21,7 @@ public final class StoreTest {
         flush();
         flushThatIsACheckpoint();
         checkpoint();
+        nodesOfManyPlaces();
         snapshot();
         snapshotThatIsCutShort();
         snapshotAtTheLimit();
@@ -356,6 +361,25 @@ public final class StoreTest {
         due.is("of a copy", x.checkpoint(4), 0);
         for (int h : new int[] {-1, 1, 5, 8, MIN, MAX}) {
             due.is("checkpoint " + h, x.checkpoint(h), -2);
+        }
+    }
+
+    /** As many places anywhere in the largest group as fit between two checkpoints, their NODES counted by a set. */
+    private static void nodesOfManyPlaces() {
+        for (int seed = 0; seed < 20; seed++) {
+            Random chance = new Random(seed);
+            TwinVaults x = made(8192, 8, 4096);
+            Set<String> nodes = new TreeSet<>();
+            int n = 1 + chance.nextInt(500);
+            for (int i = 0; i < n; i++) {
+                int volume = chance.nextInt(8);
+                int place = chance.nextInt(4096);
+                x.write(0, volume, place, i);
+                nodes.add(volume + " by 16 " + place / 16);
+                nodes.add(volume + " by 256 " + place / 256);
+                nodes.add(volume + " itself");
+            }
+            due.is("acts for " + n + " places, seed " + seed, x.checkpoint(0), nodes.size() + 1);
         }
     }
 
