@@ -18,7 +18,9 @@ import java.util.TreeSet;
  *   snaps 0 = 4097 4098                 # the IDS of all its snapshots
  *   all                                 # pass 0 1, till none is in flight
  *   mark; crash 2 = false; unchanged    # all that can be told is as it was
- *   set 0 taken 4093                    # a state that no calls lead to
+ *   set 0 taken 4093                    # a state that no calls lead to: of a store,
+ *   rename 0 1 4090                     # of the ID of its snapshot 1,
+ *   forge 0 b 0                         # of the first message in flight
  * </pre>
  *
  * No run asks more of an object than the 512 calls for which its answers are promised.
@@ -143,6 +145,10 @@ final class Edges {
             case "rename":
                 Object vault = Inside.get(Inside.store(x, (int) number(part[1])), "vault");
                 ((int[]) Inside.get(vault, "ids"))[(int) number(part[2])] = (int) number(part[3]);
+                break;
+            case "forge":
+                Object flight = Inside.get(Inside.get(x, "link"), "flight");
+                Inside.set(((Object[]) flight)[(int) number(part[1])], part[2], (int) number(part[3]));
                 break;
             case "mark":
                 marked = tellAll();

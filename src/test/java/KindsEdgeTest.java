@@ -213,6 +213,10 @@ public final class KindsEdgeTest {
     }
 
     private static void have() {
+        e.edge("with TARGET B (not 0)", BOTH + """
+            write 0 0 0 2; snapshot 0; tick; 3 * pass 0 1; message 0 = 5 4 1 0 4098 0 0 0; pass 0 2; state 0 8 = 0
+            forge 0 b 0; mark; pass 0 2; unchanged                           # B and TARGET are both 0
+            """);
         e.edge("HAVE, of a PRIMARY or LEAVING with TARGET B (not 0): an ACT: ACKED and BASE are B, TARGET 0; PHASE 0, WAIT 0; "
             + "THINNING.", BOTH + """
             write 0 0 0 2; snapshot 0; write 0 0 0 3; tick; 3 * pass 0 1; snapshot 0; snaps 0 = 4097 4098 4099

@@ -1,3 +1,7 @@
+import java.util.Map;
+import java.util.Random;
+import java.util.TreeMap;
+
 /** Promises 20 to 27: read, old, sum, differ, state, snap, lost, total. */
 public final class TellTest {
     private static final Due due = new Due();
@@ -12,6 +16,7 @@ public final class TellTest {
         state();
         snap();
         lost();
+        lostOfManyPlaces();
         total();
         tellingChangesNothing();
         due.end("TellTest");
@@ -212,6 +217,35 @@ public final class TellTest {
         due.is("one", x.state(0, 22), 1);
         Runs.lost(due, x, 0, 0, 0, 0, 80);
         due.is("no second", Due.lost(x, 0, 1, 0), OUT);
+    }
+
+    /** Written in any order, they are told by volumes, then places. */
+    private static void lostOfManyPlaces() {
+        for (int seed = 0; seed < 20; seed++) {
+            Random chance = new Random(seed);
+            TwinVaults x = new TwinVaults(8192, 2, 8);
+            x.group(8, 4096);
+            Map<Integer, Integer> want = new TreeMap<>();
+            for (int i = 0; i < 120; i++) {
+                int volume = chance.nextInt(8);
+                int place = chance.nextInt(seed < 10 ? 4096 : 20);
+                x.write(0, volume, place, i);
+                want.put(4096 * volume + place, i);
+            }
+            x.force(4);
+            x.tick();
+            x.pass(0, 1);
+            x.back(0);
+            x.pass(0, 1);
+            x.pass(0, 1);
+            due.is("how many, seed " + seed, x.state(0, 22), want.size());
+            int i = 0;
+            for (Map.Entry<Integer, Integer> one : want.entrySet()) {
+                Runs.lost(due, x, 0, i, one.getKey() / 4096, one.getKey() % 4096, one.getValue());
+                i++;
+            }
+            due.is("none behind the last, seed " + seed, Due.lost(x, 0, i, 0), OUT);
+        }
     }
 
     private static void total() {
