@@ -93,6 +93,8 @@ public final class AnswersEdgeTest {
             """, OPENED + """
             write 0 0 0 1; power 0 5; leave 0 = DOWN; total : 10=0 11=5; state 0 : 0=1 5=1
             """, OPENED + """
+            write 0 0 0 1; power 0 4; leave 0 = DOWN; total : 10=0 11=4; state 0 : 0=1 5=0
+            """, OPENED + """
             power 0 0; leave 0 = DOWN; total 10 = 0; state 0 0 = 1; up 0; leave 0 = 0
             power 0 0; stay 0 = DOWN; total 10 = 0; state 0 0 = 2
             """, OPENED + """

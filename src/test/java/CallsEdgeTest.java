@@ -159,6 +159,9 @@ public final class CallsEdgeTest {
             set 0 gift 6; leave 0 = 0; state 0 11 = 0
             """, OPENED + """
             write 0 0 0 1; power 0 5; leave 0 = DOWN; state 0 : 0=1 6=4097; up 0; power 0 0; leave 0 = DOWN; state 0 0 = 1
+            """, OPENED + """
+            write 0 0 0 1; power 0 3; leave 0 = DOWN; state 0 : 0=1 4=0 5=0; up 0 = 1
+            write 0 0 0 1; power 0 4; leave 0 = DOWN; state 0 : 0=1 4=1 5=0
             """);
         e.edge("BAD, DOWN, ROLE (PRIMARY), LIMIT.", OPENED + """
             leave -1 = BAD; leave 1 = BAD; leave 8 = BAD; leave 4 = ROLE; set 0 taken 4095; write 0 0 0 1; mark; leave 0 = LIMIT
@@ -204,6 +207,8 @@ public final class CallsEdgeTest {
             set 4 held 4090; set 4 heldToo 4091; force 4; state 4 : 9=4097 10=0          # whatever they were
             """, FENCED + """
             state 0 : 7=4097 8=0 9=0 10=0; force 0; state 0 : 9=4097 10=0
+            """, FENCED + """
+            set 0 base 0; force 0; state 0 : 9=4097 10=0                     # ACKED, not BASE
             """, BOTH + """
             write 0 0 0 2; snapshot 0; tick; force 4; tick; pass 1 1; force 0; state 0 : 9=4097 10=4098
             """, BOTH + """
@@ -281,6 +286,10 @@ public final class CallsEdgeTest {
             crash 0; up 0 = 0; fill 0 0 0 10 1; flush 0; fill 0 0 0 3 1; fill 1 0 0 64 1; crash 0; total 10 = 0
             up 1 = NONE; up 0 = 67; total 10 = 1; up 0 = NONE; state 0 2 = 10; state 1 2 = 0
             crash 1; up 1 = 0
+            """, """
+            new 200 8 2; group 1 4; group 1 4; group 1 4; group 1 4; force 4; fill 4 0 0 2 1; fill 0 0 0 3 1; fill 3 0 0 4 1; force 7
+            fill 7 0 0 1 1; tick; crash 0; up 0 = 7; state 4 : 2=2 3=0 13=1; state 7 : 2=1 13=1; state 3 2 = 0
+            fill 3 0 0 4 1; crash 1; up 1 = 3; state 3 : 2=4 3=0; state 4 : 2=0 13=0       # those of its own site alone
             """);
     }
 }

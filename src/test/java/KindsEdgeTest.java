@@ -92,6 +92,8 @@ public final class KindsEdgeTest {
             set 4 role 3; mark; pass 0 2; unchanged; set 4 role 1; mark; pass 0 2; unchanged    # it is no COPY
             """);
         e.edge("if the chunk's number is less than its chunks, or it has all, it sends ACK; if it is more, nothing;", SENT + """
+            pass 0 2; state 4 18 = 1; mark; pass 2 2; unchanged              # 2 is more than 1
+            """, SENT + """
             mark; pass 1 2; unchanged; pass 2 2; unchanged                   # 1 and 2 are more than 0
             pass 0 2; state 4 18 = 1; message 3 = 4 4 1 0 4097 1 0 0
             power 1 0; pass 0 2; total : 20=1 21=2; message 4 = 4 4 1 0 4097 1 0 0; state 4 : 18=1 19=4
@@ -139,6 +141,11 @@ public final class KindsEdgeTest {
             """, FENCED + """
             back 0; all; 8 * tick; total 11 = 9; power 0 2; pass 0 1; total : 10=1 11=11 13=0
             state 0 : 5=2 6=16385; snap 0 1 1 = 1                            # of nothing: no NODES, but one ACT
+            """);
+        e.edge("the line of B as the sender has it", """
+            new 64 2 8; group 1 40; write 0 0 0 1; write 0 0 0 2; write 0 0 1 3; write 0 0 1 4; snapshot 0; tick; all
+            write 0 0 9 5; write 0 0 1 6; write 0 0 1 7; snapshot 0; tick; all; state 4 : 2=7 23=4; snap 4 1 = 4098 7
+            read 4 0 0 = 2; read 4 0 1 = 7; read 4 0 9 = 5; old 4 0 0 0 = 2; old 4 0 0 1 = 4; old 4 0 0 9 = 0
             """);
         e.edge("if A is 0 all older SNAPSHOTS go;", BOTH + """
             write 0 0 0 2; snapshot 0; tick; pass 0 0; set 0 base 0; 8 * tick; message 0 = 1 0 1 0 4098 1 2 0

@@ -118,6 +118,9 @@ public final class LinesEdgeTest {
             write 0 0 0 7; state 0 23 = 3                                      # SNAPSHOT, KEPT, NOW
             write 0 0 1 7; state 0 23 = 4; snapshot 0; state 0 23 = 3; total 12 = 61
             """, """
+            new 64 8 8; group 1 40; write 0 0 0 1; write 0 0 1 1; checkpoint 0; write 0 0 0 2; write 0 0 2 2; flush 0
+            write 0 0 0 3; write 0 0 2 3; write 0 0 3 3; state 0 23 = 5; crash 0; up 0 = 3; state 0 23 = 4      # NOW is SAFE
+            """, """
             new 64 2 8; group 1 40; fill 0 0 0 6 1; snapshot 0; tick; pass 0 1; pass 0 1
             state 4 : 19=0 23=0; pass 0 1; state 4 : 19=4 23=4; total 22 = 60
             pass 0 1; state 4 : 19=0 23=6; total 22 = 58                       # no more staged, but in the line
@@ -130,12 +133,19 @@ public final class LinesEdgeTest {
             """, """
             new 64 2 8; group 1 40; write 0 0 0 1; write 0 0 5 1; snapshot 0; tick; all; write 0 0 0 2; write 0 0 1 2; snapshot 0
             write 0 0 0 3; write 0 0 1 3; write 0 0 5 3; snapshot 0; snaps 0 = 4097 4099; state 0 23 = 5      # one between went
+            """, """
+            new 64 2 8; group 1 40; write 0 0 0 1; snapshot 0; tick; all; write 0 0 5 2; snapshot 0; tick; force 4; tick; pass 1 1
+            pass 0 0; force 0 = 7; write 0 0 5 3; checkpoint 0; tick; snaps 0 = 4097 4098 28673; state 0 23 = 3
+            pass 0 1; back 4; pass 0 1; snaps 0 = 4097 28673; state 0 23 = 3   # 28673 holds what 4098 wrote, KEPT does not
             """);
         e.edge("FREE are those that the site's stores don't need.", """
             new 64 2 8; group 1 40; group 1 40; total : 12=64 22=64
             fill 0 0 0 5 1; fill 1 0 0 7 1; total : 12=52 22=64
             snapshot 1; tick; all; total : 12=52 22=57
             crash 0; total 12 = 52; up 0 = 5; total 12 = 57                    # the pending ones of store 0 went
+            """, """
+            new 64 2 8; group 1 40; group 1 40; group 1 40; group 1 40; fill 3 0 0 9 1; fill 0 0 0 2 1; total : 12=53 22=64
+            force 4; force 7; fill 4 0 0 5 1; fill 7 0 0 6 1; total : 12=53 22=53         # its first and its last store
             """);
     }
 
@@ -238,6 +248,8 @@ public final class LinesEdgeTest {
             tick; state 0 8 = 4099                                                             # and TARGET
             write 0 0 0 4; snapshot 0; write 0 0 0 5; snapshot 0; snaps 0 = 4097 4099 4101
             all; state 0 : 7=4099 8=0; snaps 0 = 4099 4101                                     # the one before is free
+            """, twoKept + """
+            tick; all; set 0 base 0; write 0 0 0 2; snapshot 0; write 0 0 0 3; snapshot 0; snaps 0 = 4097 4099   # ACKED alone
             """, twoKept + """
             write 0 0 0 2; snapshot 0; tick; state 0 8 = 4098; set 0 base 4097                 # BASE alone
             write 0 0 0 3; snapshot 0; snaps 0 = 4097 4098 4099

@@ -98,7 +98,8 @@ public final class MessagesEdgeTest {
             item 0 0 = 0 2 5; item 0 1 = 0 39 0; item 0 2 = 1 0 2; item 0 3 = 1 39 1
             """);
         e.edge("3 DATA: A, B likewise, C the chunk, from 0 on; ITEMS: of these places, by volumes, then places,", opened + """
-            write 0 0 7 1; snapshot 0; tick; all; write 0 1 0 2; write 0 0 39 3; write 0 1 39 4; write 0 0 0 5; write 0 0 7 6
+            write 0 0 7 1; write 0 0 3 1; write 0 1 38 1; snapshot 0; tick; all
+            write 0 1 0 2; write 0 0 39 3; write 0 1 39 4; write 0 0 0 5; write 0 0 7 6
             """ + sent + """
             message 0 = 3 0 1 4097 4098 0 0 4; message 1 = 3 0 1 4097 4098 1 0 1
             item 0 0 = 0 0 5; item 0 1 = 0 7 6; item 0 2 = 0 39 3; item 0 3 = 1 0 2; item 1 0 = 1 39 4

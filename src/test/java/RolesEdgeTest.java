@@ -189,7 +189,7 @@ public final class RolesEdgeTest {
         e.edge("if TARGET is 0 and LATEST is not ACKED: an ACT: TARGET is LATEST; BASE is ACKED; OFFERING.", BOTH + """
             tick; total : 3=0 11=7; state 0 : 8=0 16=0                       # LATEST is ACKED
             write 0 0 0 2; write 0 0 0 3; snapshot 0; set 0 base 0; power 0 1
-            tick; state 0 : 7=4097 8=4098 12=4097 13=1; total : 3=1 10=1 13=0
+            tick; state 0 : 7=4097 8=4098 12=4097 13=1; total : 3=1 10=1 13=0; message 0 = 1 0 1 4097 4098 1 3 0
             """, BOTH + """
             write 0 0 0 2; snapshot 0; power 0 0; tick; total : 3=0 10=0; state 0 : 8=0 12=4097 13=0
             """, """
